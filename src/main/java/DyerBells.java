@@ -22,6 +22,7 @@ public final class DyerBells {
     private static final int MOST_NIGHT = 6;
     private static final int MOST_WEEKS = 20;
     private static final int CELLS = MOST_REACHES * MOST_COLOURS;
+    private static final int MORE_THAN_ANY_HARM = HOURS * MOST_USERS + 1;
 
     private static final int TAPE_BYTES = 940;
     private static final int FEED_BYTES = 20;
@@ -285,7 +286,8 @@ public final class DyerBells {
         if (!isReach(r) || !isColour(c) || n < 1 || n > MOST_NUMBER || what < 0 || what > 2) {
             return NOT_AS_TOLD;
         }
-        week.prepare(now.river, null);
+        week.takeFrom(now.river);
+        week.rest();
         week.empty();
         week.water[r * MOST_COLOURS + c] = n;
         int first = NONE;
@@ -318,8 +320,8 @@ public final class DyerBells {
         }
         past();
         week.prepare(now.river, now.order);
-        int fewest = tryDays(0, told, hour, Integer.MAX_VALUE);
-        if (fewest == Integer.MAX_VALUE) {
+        int fewest = tryDays(0, told, hour, MORE_THAN_ANY_HARM);
+        if (fewest == MORE_THAN_ANY_HARM) {
             return NONE;
         }
         bestDays = told;
@@ -406,7 +408,7 @@ public final class DyerBells {
         }
         week.prepare(now.river, now.order);
         week.vol[r] = v;
-        return week.harmFrom(now.river, past, 0, Integer.MAX_VALUE);
+        return week.harmOfAll(now.river, MORE_THAN_ANY_HARM);
     }
 
     public int rain(int weeks, int seed) {
@@ -421,7 +423,7 @@ public final class DyerBells {
                 x = x * 1103515245 + 12345;
                 week.flow[day] = rainedFlow(now.river.flowOn(day), (x >>> 8) % 5);
             }
-            if (week.harmFrom(now.river, past, 0, 1) > 0) {
+            if (week.harmOfAll(now.river, 1) > 0) {
                 harmedWeeks++;
             }
         }
@@ -1121,12 +1123,13 @@ public final class DyerBells {
             place = Math.min(i, stop);
             if (i >= stop) {
                 kind = AT_END;
-            } else {
-                readToken(i);
+            } else if (!readRun(i)) {
+                readSign(i);
             }
         }
 
-        private void readToken(int from) {
+        /** A WORD or a NUMBER, or what would be one but is too long or mixed; false: there is neither letter nor digit. */
+        private boolean readRun(int from) {
             int letters = 0;
             int digits = 0;
             int i = from;
@@ -1144,16 +1147,13 @@ public final class DyerBells {
                     break;
                 }
             }
-            if (letters + digits == 0) {
-                readSign(from);
-                return;
-            }
             next = i;
             if (digits == 0 && letters <= MOST_LETTERS) {
                 kind = OF_LETTERS;
             } else {
                 kind = letters == 0 && digits <= MOST_DIGITS ? OF_DIGITS : NO_TOKEN;
             }
+            return letters + digits > 0;
         }
 
         private void readSign(int at) {
@@ -1245,32 +1245,28 @@ public final class DyerBells {
         static int readLines(Tape in, River river) {
             int lines = 0;
             while (lines < RIVER_BYTES && in.goesOn()) {
-                readLine(in, river);
+                if (in.isWord(Tape.REACH)) {
+                    readReach(in, river);
+                } else if (in.isWord(Tape.COLOUR)) {
+                    readColour(in, river);
+                } else if (in.isWord(Tape.GUILD)) {
+                    readGuild(in, river);
+                } else if (in.isWord(Tape.USER)) {
+                    readUser(in, river);
+                } else if (in.isWord(Tape.FLOW)) {
+                    readFlow(in, river);
+                } else if (in.isWord(Tape.FLOOD)) {
+                    readFlood(in, river);
+                } else if (in.isWord(Tape.PEBBLE)) {
+                    readPebble(in, river);
+                } else {
+                    in.refuse(CANT_COME);
+                }
                 in.takeSign(';');
                 lines++;
             }
             in.close();
             return lines;
-        }
-
-        private static void readLine(Tape in, River river) {
-            if (in.isWord(Tape.REACH)) {
-                readReach(in, river);
-            } else if (in.isWord(Tape.COLOUR)) {
-                readColour(in, river);
-            } else if (in.isWord(Tape.GUILD)) {
-                readGuild(in, river);
-            } else if (in.isWord(Tape.USER)) {
-                readUser(in, river);
-            } else if (in.isWord(Tape.FLOW)) {
-                readFlow(in, river);
-            } else if (in.isWord(Tape.FLOOD)) {
-                readFlood(in, river);
-            } else if (in.isWord(Tape.PEBBLE)) {
-                readPebble(in, river);
-            } else {
-                in.refuse(CANT_COME);
-            }
         }
 
         private static void readReach(Tape in, River river) {
@@ -1471,19 +1467,24 @@ public final class DyerBells {
         final int[] bed = new int[CELLS];
         final int[] passed = new int[MOST_COLOURS];
 
-        /** All as told, with the works of an ORDER; no order: nobody works. */
         void prepare(River river, Order order) {
+            takeFrom(river);
+            rest();
+            for (int k = 0; k < order.bells; k++) {
+                setWork(order.guild[k], order.hour[k], order.hours[k]);
+            }
+        }
+
+        void takeFrom(River river) {
             System.arraycopy(river.vol, 0, vol, 0, MOST_REACHES);
             for (int day = 0; day < DAYS; day++) {
                 flow[day] = river.flowOn(day);
             }
+        }
+
+        void rest() {
             for (int h = 0; h < HOURS; h++) {
                 works[h] = 0;
-            }
-            if (order != null) {
-                for (int k = 0; k < order.bells; k++) {
-                    setWork(order.guild[k], order.hour[k], order.hours[k]);
-                }
             }
         }
 
@@ -1589,12 +1590,20 @@ public final class DyerBells {
             return false;
         }
 
-        /** HOURS HARMED of the week, if all was as told ahead of an HOUR; it may stop counting at 'enough'. */
+        /** HOURS HARMED of the whole week; it may stop counting at 'enough'. */
+        int harmOfAll(River river, int enough) {
+            empty();
+            return addHarm(river, 0, 0, enough);
+        }
+
+        /** Likewise, if all was as told ahead of an HOUR. */
         int harmFrom(River river, Past told, int from, int enough) {
-            if (!beginBehind(told, from)) {
-                return 0;
-            }
-            int harm = from == 0 ? 0 : told.harmBefore[from];
+            beginBehind(told, from);
+            return addHarm(river, from, told.harmBefore[from], enough);
+        }
+
+        private int addHarm(River river, int from, int ahead, int enough) {
+            int harm = ahead;
             for (int h = from; h < HOURS && harm < enough; h++) {
                 pass(river, h);
                 harm += Integer.bitCount(harmedBehind(river, h));
@@ -1604,9 +1613,7 @@ public final class DyerBells {
 
         /** Whether all SEEN from an HOUR on is just so, if all was as told ahead of it. */
         boolean agreesFrom(River river, Past told, int from, Sights sights) {
-            if (!beginBehind(told, from)) {
-                return false;
-            }
+            beginBehind(told, from);
             int last = sights.lastHour();
             for (int h = from; h <= last && h < HOURS; h++) {
                 pass(river, h);
@@ -1617,17 +1624,13 @@ public final class DyerBells {
             return true;
         }
 
-        private boolean beginBehind(Past told, int from) {
-            if (from < 0 || from >= HOURS) {
-                return false;
-            }
-            if (from == 0) {
+        private void beginBehind(Past told, int from) {
+            if (from <= 0) {
                 empty();
             } else {
                 System.arraycopy(told.water, (from - 1) * CELLS, water, 0, CELLS);
                 System.arraycopy(told.bed, (from - 1) * CELLS, bed, 0, CELLS);
             }
-            return true;
         }
     }
 

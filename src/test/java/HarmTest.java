@@ -82,6 +82,11 @@ public final class HarmTest {
         Check.due("all BELLS of g are taken away", 1, x.blame(0, 0));
         Check.due("h has none", 0, x.blame(1, 0));
         Check.due("the ORDER is as it was", 2, x.harm());
+        DyerBells y = new DyerBells();
+        Check.river(y, "reach a 100 0;colour c;guild g a 1 c 10;user u a 0 24 c 4;flow 6 0;");
+        y.ring(150, 0, 1);
+        Check.due("each HOUR from then on", 18, y.harm());
+        Check.due("nothing anywhere at first", 18, y.blame(0, 0));
         Check.due("no GUILD", -1, x.blame(2, 0));
         Check.due("no GUILD", -1, x.blame(-1, 0));
         Check.due("no USER", -1, x.blame(0, 3));
@@ -146,6 +151,10 @@ public final class HarmTest {
                 Check.due("three times 3400 is 9999", weeks(weeks, seed, true), three.rain(weeks, seed));
             }
         }
+        DyerBells little = new DyerBells();
+        Check.river(little, "reach a 100 0;colour c;guild g a 1 c 9;user u a 0 24 c 0;flow 2 30;");
+        little.ring(48, 0, 1);
+        Check.due("three times 30 is too little", 20, little.rain(20, 3));
         Check.due("the flow is as told", 199, half.flow(2));
         Check.due("nobody is harmed", 0, half.harm());
         Check.due("0 weeks", -1, half.rain(0, 1));

@@ -9,6 +9,7 @@ public final class KeptTest {
         both();
         others();
         copies();
+        sights();
         Check.close();
     }
 
@@ -55,7 +56,7 @@ public final class KeptTest {
     private static void all() {
         DyerBells x = made();
         isOne(x);
-        x.image(0);
+        Check.due("image(0)", true, x.image(0));
         Check.river(x, OTHER);
         Check.due("the other", 9, x.guild(0, 3));
         Check.due("restore", true, x.restore(0));
@@ -65,6 +66,8 @@ public final class KeptTest {
         x.see(1, 0, 1);
         Check.due("restore again", true, x.restore(0));
         isOne(x);
+        x.see(3, 0, 5);
+        Check.due("two sights of one HOUR", 0, x.night());
         Check.river(x, ONE.replace("flow 0 50;flood 900;", ""));
         Check.due("flow without", 100, x.flow(0));
         x.restore(0);
@@ -114,6 +117,25 @@ public final class KeptTest {
         Check.due("exchanges", 1, x.exchanges());
         Check.due("dayOf", 1, x.dayOf(0));
         Check.due("led", 5, x.led(1));
+    }
+
+    private static void sights() {
+        DyerBells x = new DyerBells();
+        Check.river(x, "reach a 100 0;colour c;colour d;guild g a 1 c 100;guild h a 1 d 100;");
+        x.see(7, 1, 0);
+        x.see(8, 1, 100);
+        x.see(9, 1, 0);
+        x.image(0);
+        Check.river(x, "reach a 100 0;colour c;colour d;guild g a 1 c 100;guild h a 1 d 100;");
+        x.see(100, 0, 1);
+        x.see(101, 0, 1);
+        x.see(102, 0, 1);
+        Check.due("none can", 0, x.night());
+        x.restore(0);
+        Check.due("night as kept", 1, x.night());
+        Check.due("led(0)", 1, x.led(0));
+        Check.due("led(1)", 8, x.led(1));
+        Check.due("led(2)", 1, x.led(2));
     }
 
     /** What is done behind an image or a restore does not reach what is kept. */

@@ -74,6 +74,8 @@ public final class NightTest {
         DyerBells y = made();
         y.see(10, 0, 0);
         Check.due("all others", 2 * (993 - 21), y.night());
+        y.see(30, 1, 0);
+        Check.due("nobody puts in d, so that it is as seen", 2 * (993 - 21), y.night());
         y.see(20, 1, 5);
         Check.due("nobody puts in d", 0, y.night());
     }
@@ -110,6 +112,8 @@ public final class NightTest {
             seen[i] = x.passed(72 + 2 * i, 0);
         }
         x.undo();
+        // The week that was tried last is another one.
+        x.dam(0, 999);
         for (int i = 0; i < 6; i++) {
             x.see(72 + 2 * i, 0, seen[i]);
         }

@@ -9,6 +9,7 @@ public final class PlanTest {
         firstTwo();
         fifty();
         late();
+        lateWithFlood();
         Check.close();
     }
 
@@ -42,6 +43,8 @@ public final class PlanTest {
 
     private static void daysOfMany() {
         DyerBells x = made();
+        x.harm();
+        x.dam(0, 1);
         Check.due("h and g", 1, Check.days(x, 23, 1, 0));
         Check.due("h on DAY 5 already: of like ones the first", 5, x.dayOf(0));
         Check.due("g on DAY 5", 5, x.dayOf(1));
@@ -127,6 +130,12 @@ public final class PlanTest {
         Check.due("again", 0, x.exchange());
         Check.due("none more", 0, x.exchanges());
         Check.due("still two", 2, x.count(5));
+        x.ring(24, 0, 1);
+        int harm = x.harm();
+        Check.due("somebody is harmed", true, harm > 0);
+        x.ring(48, 1, 1);
+        Check.due("no exchange helps", harm, x.exchange());
+        Check.due("none is done", 0, x.exchanges());
     }
 
     /** BELL 0 of 'big' harms; an exchange with BELL 1 does not help, with 2 and with 3 does. */
@@ -155,6 +164,27 @@ public final class PlanTest {
         Check.due("50 at most", 50, x.exchanges());
         x.exchange();
         Check.due("there are more", true, x.exchanges() > 0);
+    }
+
+    /** What has settled of DAY 0 is washed up on DAY 2; each BELL is tried by hand. */
+    private static void lateWithFlood() {
+        for (int start = 1; start < 168; start++) {
+            DyerBells x = new DyerBells();
+            Check.river(x, "reach a 100 500;reach b 80 90;colour c;guild g a 1 c 100;user u a 0 24 c 10;user v b 0 9 c 12;"
+                + "flow 0 0;flow 1 0;flow 2 10;flow 3 0;flow 4 5;flow 5 12;flow 6 1;flood 10;");
+            x.ring(0, 0, 1);
+            x.ring(start, 0, 1);
+            int told = x.harm();
+            int late = x.late(1);
+            x.undo();
+            int due = 0;
+            for (int later = 1; later <= 24 && start + later < 168 && due == later - 1; later++) {
+                x.ring(start + later, 0, 1);
+                due = x.harm() <= told ? later : due;
+                x.undo();
+            }
+            Check.due("late by a BELL of HOUR " + start, due, late);
+        }
     }
 
     private static void late() {

@@ -20,7 +20,7 @@ public final class RandomRunsTest {
 
     public static void main(String[] args) {
         int from = args.length > 0 ? Integer.parseInt(args[0]) : 1;
-        int till = args.length > 1 ? Integer.parseInt(args[1]) : 40;
+        int till = args.length > 1 ? Integer.parseInt(args[1]) : 80;
         for (int seed = from; seed <= till; seed++) {
             new RandomRunsTest(seed).play();
         }
@@ -41,7 +41,7 @@ public final class RandomRunsTest {
 
     private void play() {
         check("river", river(), 0);
-        int rounds = 6 + draw(12);
+        int rounds = 3 + draw(5);
         for (int i = 0; i < rounds; i++) {
             int before = draw(30);
             if (before < 2) {

@@ -87,6 +87,7 @@ public final class RiverTest {
         Check.riverFault(x, "colour c 5;", 1, 9);
         Check.riverFault(x, "colour 5;", 1, 7);
         Check.riverFault(x, "reach a b 5;", 1, 8);
+        Check.riverFault(x, "reach 5 5;", 1, 6);
         Check.riverFault(x, "reach a 5;", 1, 9);
         Check.riverFault(x, "reach a 5 5 5;", 1, 12);
         Check.riverFault(x, "flow a 5;", 1, 5);
@@ -138,6 +139,9 @@ public final class RiverTest {
         Check.riverFault(x, HEAD + "guild g a 1 a 1;", 3, 33);
         Check.riverFault(x, HEAD + "guild g a 1 x 1;", 3, 33);
         Check.riverFault(x, HEAD + "guild g a 5 c 5 c 0;", 3, 37);
+        Check.riverFault(x, HEAD + "colour d;guild g a 5 c 5 d 5 c 5;", 3, 50);
+        Check.riverFault(x, HEAD + "colour d;colour e;colour f;guild g a 5 c 5 d 5 e 5 f 5 d 5;", 3, 76);
+        Check.riverFault(x, HEAD + "colour d;colour e;colour f;user g a 5 6 f 5 e 5 d 5 c 5 c 5;", 3, 77);
         Check.riverFault(x, HEAD + "user u c 1 2;", 3, 28);
         Check.riverFault(x, HEAD + "user u a 1 2 c 5 c;", 3, 38);
         Check.riverFault(x, HEAD + "pebble a 1 2;", 3, 28);
@@ -240,6 +244,14 @@ public final class RiverTest {
         Check.due("no SENTENCE", -1, x.said(-1));
         Check.due("flow without", 100, x.flow(2));
         Check.due("borne: any", -1, x.user(0, 3));
+        String tail = "guild g a 1 c 9;guild h a 1 c 8 d 7;user u a 0 1 d 5 c 6;user v a 0 1 c 4 d 3;";
+        Check.river(x, HEAD + "colour d;" + tail);
+        Check.river(x, HEAD + "colour d;guild h a 1 d 2;guild g a 1 d 1;user v a 0 1 d 1;user u a 0 1 d 2;");
+        Check.due("h puts in no c", 0, x.guild(0, 2));
+        Check.due("h puts in d", 2, x.guild(0, 3));
+        Check.due("g puts in no c", 0, x.guild(1, 2));
+        Check.due("v bears any c", -1, x.user(0, 3));
+        Check.due("u bears any c", -1, x.user(1, 3));
         Check.due("empty", 0, Check.river(x, ""));
         Check.due("no REACH", 0, x.count(0));
         Check.due("no pebble", 0, x.count(4));

@@ -55,7 +55,13 @@ public final class SentenceTest {
         said(x, "passed>5", 1, both);
         said(x, "passed=" + (x.passed(1, 0) + x.passed(1, 1)), 1, 1);
         Check.due("PASSED of both COLOURS", 1, x.said(0));
-        said(x, "shade d b=12 and hour>23", 2, 0);
+        Check.due("SHADE of 50 in 50", 100, x.at(0, 1, 0, 2));
+        int inB = 0;
+        for (int h = 0; h < 168; h++) {
+            inB += x.at(h, 1, 0, 2) > 60 ? 1 : 0;
+        }
+        said(x, "shade c b>60", 1, inB);
+        Check.due("not as in the other REACH", true, inB != 2 && inB != 0);
         x.ring(100, 0, 1);
         said(x, "works g", 1, 3);
         x.undo();
@@ -142,6 +148,16 @@ public final class SentenceTest {
         Check.sentenceFault(x, twenty + " or (", 4, twenty.length() + 4);
         Check.sentenceFault(x, twenty + " or x", 1, twenty.length() + 4);
         Check.sentenceFault(x, twenty + " x", 1, twenty.length() + 1);
+        StringBuilder unlike = new StringBuilder("hour=0");
+        for (int i = 1; i < 14; i++) {
+            unlike.append(" or hour=").append(i);
+        }
+        for (int i = 1; i < 7; i++) {
+            unlike.append(" or day=").append(i);
+        }
+        said(x, unlike.toString(), 20, 14 + 144);
+        said(x, "day=1" + " and day=1".repeat(19), 20, 24);
+        Check.sentenceFault(x, "not day=1" + " and day=1".repeat(18) + " and day=1", 4, 194);
         String nineteen = "day=1" + " and day=1".repeat(18);
         Check.sentenceFault(x, nineteen.replace(" and ", " or ") + " or not day=1", 4, nineteen.length() - 18 + 8);
         said(x, "not ".repeat(7) + "day=1", 8, 144);

@@ -138,6 +138,12 @@ public final class WaterTest {
         Check.due("one stays: none with the most", -1, x.pulse(1, 0, 1, 1));
         Check.due("one stays: nothing", 0, x.pulse(1, 0, 1, 2));
         Check.due("the ORDER is as it was", 1200, x.sum(0, 0));
+        Check.due("much is left", true, x.sum(0, 2) > 10);
+        Check.due("nothing else is there", 99, x.pulse(1, 0, 100, 2));
+        x.undo();
+        x.ring(0, 0, 1);
+        Check.due("PASSED from HOUR 0 on: 25, 12, 6, 3, 2, 1", 49, x.sum(0, 1));
+        Check.due("now", 49, x.pulse(1, 0, 50, 2));
         Check.due("n 9999", 0, x.pulse(1, 0, 9999, 0));
         Check.due("n 10000", -2, x.pulse(1, 0, 10000, 0));
         Check.due("n 0", -2, x.pulse(1, 0, 0, 0));
