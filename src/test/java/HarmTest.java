@@ -83,7 +83,8 @@ public final class HarmTest {
         Check.due("h has none", 0, x.blame(1, 0));
         Check.due("the ORDER is as it was", 2, x.harm());
         DyerBells y = new DyerBells();
-        Check.river(y, "reach a 100 0;colour c;guild g a 1 c 10;user u a 0 24 c 4;flow 6 0;");
+        Check.river(y, "reach a 100 0;colour c;guild g a 1 c 10;user u a 0 24 c 4;flow 0 0;flow 1 0;flow 2 0;flow 3 0;flow 4 0;"
+            + "flow 5 0;flow 6 0;");
         y.ring(150, 0, 1);
         Check.due("each HOUR from then on", 18, y.harm());
         Check.due("nothing anywhere at first", 18, y.blame(0, 0));

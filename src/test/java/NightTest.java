@@ -113,6 +113,7 @@ public final class NightTest {
         }
         x.undo();
         // The week that was tried last is another one.
+        x.harm();
         x.dam(0, 999);
         for (int i = 0; i < 6; i++) {
             x.see(72 + 2 * i, 0, seen[i]);

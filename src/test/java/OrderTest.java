@@ -54,6 +54,8 @@ public final class OrderTest {
         Check.orderFault(x, "bell 6 0 g 24;bell 6 1 g 24;", 2, 25);
         Check.orderFault(x, "bell 6 23 g 2;", 2, 12);
         Check.orderFault(x, "bell 0 0 a 1;", 3, 9);
+        Check.orderFault(x, "bell 0 0 c 1;", 3, 9);
+        Check.orderFault(x, "bell 0 0 u 1;", 3, 9);
         Check.orderFault(x, "bell 0 0 x 1;", 3, 9);
         Check.orderFault(x, "bell 0 0 x 99;", 3, 9);
         String forty = "bell 0 0 g 1;".repeat(40);

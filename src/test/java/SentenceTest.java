@@ -132,6 +132,13 @@ public final class SentenceTest {
         DyerBells x = made();
         Check.sentenceFault(x, "works x", 3, 6);
         Check.sentenceFault(x, "works u", 3, 6);
+        Check.sentenceFault(x, "works c", 3, 6);
+        Check.sentenceFault(x, "works a", 3, 6);
+        Check.sentenceFault(x, "harmed a", 3, 7);
+        Check.sentenceFault(x, "harmed c", 3, 7);
+        Check.sentenceFault(x, "shade g a>5", 3, 6);
+        Check.sentenceFault(x, "shade u a>5", 3, 6);
+        Check.sentenceFault(x, "shade c g>5", 3, 8);
         Check.sentenceFault(x, "harmed g", 3, 7);
         Check.sentenceFault(x, "shade a c>5", 3, 6);
         Check.sentenceFault(x, "shade c c>5", 3, 8);

@@ -8,6 +8,7 @@ public final class WaterTest {
         fines();
         wrongAsked();
         pulses();
+        tenReaches();
         greatest();
         Check.close();
     }
@@ -139,7 +140,9 @@ public final class WaterTest {
         Check.due("one stays: nothing", 0, x.pulse(1, 0, 1, 2));
         Check.due("the ORDER is as it was", 1200, x.sum(0, 0));
         Check.due("much is left", true, x.sum(0, 2) > 10);
-        Check.due("nothing else is there", 99, x.pulse(1, 0, 100, 2));
+        DyerBells y = new DyerBells();
+        Check.river(y, "reach a 100 0;reach b 100 0;colour c;flow 0 50;flow 1 0;flow 2 0;flow 3 0;flow 4 0;flow 5 0;flow 6 0;");
+        Check.due("nothing else is there", y.pulse(0, 0, 100, 2), x.pulse(0, 0, 100, 2));
         x.undo();
         x.ring(0, 0, 1);
         Check.due("PASSED from HOUR 0 on: 25, 12, 6, 3, 2, 1", 49, x.sum(0, 1));
@@ -157,6 +160,29 @@ public final class WaterTest {
         Check.due("the first HOUR", 24, x.pulse(2, 0, 100, 0));
         Check.due("the first HOUR from the spring", 26, x.pulse(0, 0, 100, 0));
         Check.due("the HOUR with the most: 21, 25, 21", 27, x.pulse(0, 0, 100, 1));
+    }
+
+    /** Each COLOUR goes one REACH an HOUR, all of it. */
+    private static void tenReaches() {
+        DyerBells x = new DyerBells();
+        StringBuilder river = new StringBuilder("colour ca;colour cb;colour cc;colour cd;");
+        for (char r = 'a'; r < 'k'; r++) {
+            river.append("reach ").append(r).append(" 100 0;");
+        }
+        Check.river(x, river + "guild ga a 1 ca 100 cb 101 cc 102 cd 103;");
+        x.ring(20, 0, 1);
+        x.ring(158, 0, 1);
+        for (int c = 0; c < 4; c++) {
+            for (int r = 1; r < 10; r++) {
+                Check.due("REACH " + r, 100 + c, x.at(19 + r, r, c, 0));
+                Check.due("REACH " + r + " an HOUR later", 0, x.at(20 + r, r, c, 0));
+            }
+            Check.due("passed", 100 + c, x.passed(29, c));
+            Check.due("passed in the last HOUR", 100 + c, x.passed(167, c));
+            Check.due("nothing is left", 0, x.sum(c, 2));
+            Check.due("to the bridge", 9, x.pulse(0, c, 5, 0));
+            Check.due("from the last REACH", 0, x.pulse(9, c, 5, 0));
+        }
     }
 
     /** Products beyond an int. */
