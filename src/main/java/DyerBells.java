@@ -1538,10 +1538,11 @@ public final class DyerBells {
 
         private void carry(River river, int flowing) {
             for (int c = 0; c < river.colours; c++) {
-                int gone = 0;
+                // Without a REACH nothing comes to the bridge, and what another week had there must not stay.
+                passed[c] = 0;
                 for (int r = river.reaches - 1; r >= 0; r--) {
                     int cell = r * MOST_COLOURS + c;
-                    gone = partOf(water[cell], Math.min(flowing, vol[r]), vol[r]);
+                    int gone = partOf(water[cell], Math.min(flowing, vol[r]), vol[r]);
                     water[cell] -= gone;
                     if (r < river.reaches - 1) {
                         water[cell + MOST_COLOURS] += gone;

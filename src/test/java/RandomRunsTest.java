@@ -27,8 +27,9 @@ public final class RandomRunsTest {
         Check.close();
     }
 
+    /** 0 to n - 1; 0, if there are none. */
     private int draw(int n) {
-        return random.nextInt(n);
+        return random.nextInt(Math.max(1, n));
     }
 
     private boolean one(int n) {
@@ -44,11 +45,11 @@ public final class RandomRunsTest {
         int rounds = 3 + draw(5);
         for (int i = 0; i < rounds; i++) {
             int before = draw(30);
-            if (before < 2) {
+            if (before < 5) {
                 check("river", river(), 0);
-            } else if (before < 10) {
+            } else if (before < 13) {
                 check("order", order(), 0);
-            } else if (before < 16) {
+            } else if (before < 19) {
                 check("sentence", sentence(), 0);
             }
             for (int k = 0; k < 12; k++) {
@@ -135,6 +136,9 @@ public final class RandomRunsTest {
         colours = full ? 4 : 1 + draw(3);
         guilds = full ? 6 : 1 + draw(4);
         users = full ? 6 : 1 + draw(3);
+        if (one(6)) {
+            leaveOut();
+        }
         int most = pick(100, 500, 500, 9999);
         for (int i = 0; i < reaches; i++) {
             t.append("reach r").append((char) ('a' + i)).append(' ').append(1 + draw(most)).append(' ').append(draw(pick(2, 100, 501))).append(gap());
@@ -154,7 +158,7 @@ public final class RandomRunsTest {
             shares(t, false, draw(pick(20, 100, 600)));
             t.append(gap());
         }
-        for (int i = draw(5); i > 0; i--) {
+        for (int i = colours == 0 ? 0 : draw(5); i > 0; i--) {
             t.append("pebble c").append((char) ('a' + draw(colours))).append(' ').append(1 + draw(200)).append(' ').append(draw(1000)).append(gap());
         }
         for (int d = 0; d < 7; d++) {
@@ -166,6 +170,27 @@ public final class RandomRunsTest {
             t.append("flood ").append(1 + draw(pick(100, 300, 9999))).append(gap());
         }
         return limited(spoil(t.toString()), 940);
+    }
+
+    /** Some sort is not told at all, nor what can't be without it. */
+    private void leaveOut() {
+        switch (draw(4)) {
+            case 0:
+                reaches = 0;
+                guilds = 0;
+                users = 0;
+                break;
+            case 1:
+                colours = 0;
+                guilds = 0;
+                break;
+            case 2:
+                guilds = 0;
+                break;
+            default:
+                users = 0;
+                break;
+        }
     }
 
     private String gap() {

@@ -9,6 +9,7 @@ public final class SentenceTest {
         tooMany();
         tooLong();
         stays();
+        withoutReach();
         Check.close();
     }
 
@@ -197,5 +198,15 @@ public final class SentenceTest {
         Check.order(x, "bell 0 0 g 5;");
         Check.due("fault of the latest", 0, x.fault());
         Check.due("another ORDER", 5, x.said(-1));
+    }
+
+    private static void withoutReach() {
+        DyerBells x = made();
+        x.ring(167, 1, 1);
+        said(x, "passed>0 and hour=167", 2, 1);
+        Check.river(x, "colour c;colour d;");
+        said(x, "passed=0", 1, 168);
+        said(x, "passed>0", 1, 0);
+        Check.sentenceFault(x, "shade c a>0", 3, 8);
     }
 }

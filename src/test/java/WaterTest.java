@@ -10,6 +10,7 @@ public final class WaterTest {
         pulses();
         tenReaches();
         greatest();
+        withoutReach();
         Check.close();
     }
 
@@ -211,5 +212,44 @@ public final class WaterTest {
         Check.due("into the next one", gone, x.at(144, 1, 0, 0));
         Check.due("SHADE in one of water", gone * 100, x.at(144, 1, 0, 2));
         Check.due("half of the rest stays in the water", then - gone - (then - gone) / 2, x.at(144, 0, 0, 0));
+    }
+
+    /** A COLOUR without a REACH, told behind a RIVER by which something PASSED in the last HOUR that was worked out. */
+    private static void withoutReach() {
+        DyerBells x = new DyerBells();
+        Check.river(x, "reach r 100 0;colour c;colour d;guild g r 1 c 10 d 20;");
+        x.ring(167, 0, 1);
+        Check.due("PASSED in the last HOUR", 10, x.passed(167, 0));
+        x.image(0);
+        Check.due("river", 2, Check.river(x, "colour c;colour d;"));
+        nothingPasses(x);
+        x.image(1);
+        x.restore(0);
+        Check.due("PASSED as kept", 20, x.passed(167, 1));
+        x.restore(1);
+        nothingPasses(x);
+        x.restore(0);
+        Check.due("a PULSE", 99, x.pulse(0, 0, 99, 2));
+        x.restore(1);
+        nothingPasses(x);
+    }
+
+    private static void nothingPasses(DyerBells x) {
+        for (int c = 0; c < 2; c++) {
+            for (int h = 0; h < 168; h++) {
+                Check.due("passed(" + h + ", " + c + ") without a REACH", 0, x.passed(h, c));
+            }
+            for (int what = 0; what < 4; what++) {
+                Check.due("sum(" + c + ", " + what + ") without a REACH", 0, x.sum(c, what));
+            }
+        }
+        Check.due("another COLOUR", -1, x.passed(0, 2));
+        Check.due("at without a REACH", -1, x.at(0, 0, 0, 0));
+        Check.due("fine without a REACH", -1, x.fine(0, 0));
+        Check.due("pulse without a REACH", -2, x.pulse(0, 0, 1, 0));
+        Check.due("dam without a REACH", -1, x.dam(0, 1));
+        Check.due("harm without a REACH", 0, x.harm());
+        Check.due("rain without a REACH", 0, x.rain(20, 1));
+        Check.due("night without a REACH", 0, x.night());
     }
 }
