@@ -4,6 +4,7 @@ import java.util.NoSuchElementException;
 /** What the tests share: a call's answer against the one that is due, and texts put on the tape. */
 final class Check {
     private static int wrong = 0;
+    private static String test = "";
 
     interface Call {
         int answer();
@@ -12,10 +13,22 @@ final class Check {
     private Check() {
     }
 
+    /** What is wrong from here on is told with this ahead of it. */
+    static void within(String name) {
+        test = name;
+    }
+
     static void due(String what, long want, long got) {
         if (want != got) {
             wrong++;
-            System.out.println(what + " answered " + got + ", due is " + want);
+            System.out.println(test + what + " answered " + got + ", due is " + want);
+        }
+    }
+
+    static void same(String what, String want, String got) {
+        if (!want.equals(got)) {
+            wrong++;
+            System.out.println(test + what + ": '" + got + "', due is '" + want + "'");
         }
     }
 
@@ -27,18 +40,18 @@ final class Check {
         try {
             int got = call.answer();
             wrong++;
-            System.out.println(what + " answered " + got + ", due is NoSuchElementException");
+            System.out.println(test + what + " answered " + got + ", due is NoSuchElementException");
         } catch (NoSuchElementException e) {
             return;
         }
     }
 
     /** The tape has this text alone. */
-    static void tape(DyerBells x, String text) {
+    static void tape(Bells x, String text) {
         tape(x, text.getBytes(StandardCharsets.ISO_8859_1));
     }
 
-    static void tape(DyerBells x, byte[] bytes) {
+    static void tape(Bells x, byte[] bytes) {
         x.end(0);
         for (int i = 0; i < bytes.length; i += 20) {
             x.feed(four(bytes, i), four(bytes, i + 4), four(bytes, i + 8), four(bytes, i + 12), four(bytes, i + 16));
@@ -54,22 +67,22 @@ final class Check {
         return number;
     }
 
-    static int river(DyerBells x, String text) {
+    static int river(Bells x, String text) {
         tape(x, text);
         return x.river();
     }
 
-    static int order(DyerBells x, String text) {
+    static int order(Bells x, String text) {
         tape(x, text);
         return x.order();
     }
 
-    static int sentence(DyerBells x, String text) {
+    static int sentence(Bells x, String text) {
         tape(x, text);
         return x.sentence();
     }
 
-    static int days(DyerBells x, int hour, int... guilds) {
+    static int days(Bells x, int hour, int... guilds) {
         byte[] bytes = new byte[guilds.length];
         for (int i = 0; i < guilds.length; i++) {
             bytes[i] = (byte) guilds[i];
@@ -78,19 +91,39 @@ final class Check {
         return x.days(hour);
     }
 
-    static void riverFault(DyerBells x, String text, int kind, int place) {
+    static void riverTaken(Bells x, String text, int lines) {
+        due("river of '" + text + "'", lines, river(x, text));
+        due("fault of '" + text + "'", 0, x.fault());
+    }
+
+    static void orderTaken(Bells x, String text, int bells) {
+        due("order of '" + text + "'", bells, order(x, text));
+        due("fault of '" + text + "'", 0, x.fault());
+    }
+
+    static void sentenceTaken(Bells x, String text, int ones) {
+        due("sentence of '" + text + "'", ones, sentence(x, text));
+        due("fault of '" + text + "'", 0, x.fault());
+    }
+
+    static void riverFault(Bells x, String text, int kind, int place) {
         due("river of '" + text + "'", -1 - place, river(x, text));
         due("fault of '" + text + "'", kind, x.fault());
     }
 
-    static void orderFault(DyerBells x, String text, int kind, int place) {
+    static void orderFault(Bells x, String text, int kind, int place) {
         due("order of '" + text + "'", -1 - place, order(x, text));
         due("fault of '" + text + "'", kind, x.fault());
     }
 
-    static void sentenceFault(DyerBells x, String text, int kind, int place) {
+    static void sentenceFault(Bells x, String text, int kind, int place) {
         due("sentence of '" + text + "'", -1 - place, sentence(x, text));
         due("fault of '" + text + "'", kind, x.fault());
+    }
+
+    /** 'head', blanks up to the place 'till', and 'tail'. */
+    static String padded(String head, int till, String tail) {
+        return head + " ".repeat(till - head.length()) + tail;
     }
 
     static void close() {

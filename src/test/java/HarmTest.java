@@ -12,15 +12,15 @@ public final class HarmTest {
     }
 
     /** REACH a halves what is in it each HOUR of DAY 0, and is empty behind any HOUR of another. */
-    private static DyerBells made() {
-        DyerBells x = new DyerBells();
+    private static Bells made() {
+        Bells x = new Bells();
         Check.river(x, "reach a 100 0;colour c;guild g a 5 c 10;guild h a 1 c 10;user u a 0 24 c 4;user v a 2 3 c 0;user w a 0 24;flow 0 50;");
         return x;
     }
 
     /** 20 put in: 10, 5, 3, 2, 1, 1 .. are left. */
     private static void harmed() {
-        DyerBells x = made();
+        Bells x = made();
         Check.due("without BELLS", 0, x.harmed(0, -1));
         Check.due("without BELLS", 0, x.harm());
         x.ring(0, 0, 1);
@@ -43,7 +43,7 @@ public final class HarmTest {
     }
 
     private static void hoursOfTheDay() {
-        DyerBells x = new DyerBells();
+        Bells x = new Bells();
         Check.river(x, "reach a 100 0;colour c;guild g a 1 c 1;user u a 6 8 c 0;user v a 23 24 c 0;user w a 0 1 c 0;user y a 0 24 c 1;"
             + "flow 0 0;flow 1 0;flow 2 0;flow 3 0;flow 4 0;flow 5 0;flow 6 0;");
         x.ring(7, 0, 1);
@@ -59,7 +59,7 @@ public final class HarmTest {
     }
 
     private static void someColour() {
-        DyerBells x = new DyerBells();
+        Bells x = new Bells();
         Check.river(x, "reach a 100 0;reach b 100 0;colour c;colour d;guild g a 1 c 9 d 9;user u a 0 1 c 9 d 8;user v a 0 1 d 9;user w b 0 24 c 0;flow 0 0;");
         x.ring(0, 0, 1);
         Check.due("one COLOUR is above", 1, x.harmed(0, -1));
@@ -69,7 +69,7 @@ public final class HarmTest {
     }
 
     private static void blame() {
-        DyerBells x = made();
+        Bells x = made();
         Check.due("without BELLS", 0, x.blame(0, 0));
         x.ring(0, 0, 1);
         x.ring(0, 1, 1);
@@ -82,7 +82,7 @@ public final class HarmTest {
         Check.due("all BELLS of g are taken away", 1, x.blame(0, 0));
         Check.due("h has none", 0, x.blame(1, 0));
         Check.due("the ORDER is as it was", 2, x.harm());
-        DyerBells y = new DyerBells();
+        Bells y = new Bells();
         Check.river(y, "reach a 100 0;colour c;guild g a 1 c 10;user u a 0 24 c 4;flow 0 0;flow 1 0;flow 2 0;flow 3 0;flow 4 0;"
             + "flow 5 0;flow 6 0;");
         y.ring(150, 0, 1);
@@ -95,7 +95,7 @@ public final class HarmTest {
     }
 
     private static void duty() {
-        DyerBells x = made();
+        Bells x = made();
         Check.due("all is left", 5, x.duty(0));
         x.ring(0, 0, 3);
         Check.due("two are left", 2, x.duty(0));
@@ -109,7 +109,7 @@ public final class HarmTest {
     }
 
     private static void dam() {
-        DyerBells x = made();
+        Bells x = made();
         x.ring(0, 0, 1);
         x.ring(0, 1, 1);
         Check.due("as told", 3, x.dam(0, 100));
@@ -139,10 +139,10 @@ public final class HarmTest {
     }
 
     private static void rain() {
-        DyerBells half = new DyerBells();
+        Bells half = new Bells();
         Check.river(half, "reach a 100 0;colour c;guild g a 1 c 9;user u a 0 24 c 0;flow 2 199;");
         half.ring(48, 0, 1);
-        DyerBells three = new DyerBells();
+        Bells three = new Bells();
         Check.river(three, "reach a 9999 0;colour c;guild g a 1 c 9999;user u a 0 1 c 0;flow 2 3400;");
         three.ring(48, 0, 1);
         int[] seeds = {0, 1, -1, 2026, Integer.MAX_VALUE, Integer.MIN_VALUE};
@@ -152,7 +152,7 @@ public final class HarmTest {
                 Check.due("three times 3400 is 9999", weeks(weeks, seed, true), three.rain(weeks, seed));
             }
         }
-        DyerBells little = new DyerBells();
+        Bells little = new Bells();
         Check.river(little, "reach a 100 0;colour c;guild g a 1 c 9;user u a 0 24 c 0;flow 2 30;");
         little.ring(48, 0, 1);
         Check.due("three times 30 is too little", 20, little.rain(20, 3));

@@ -14,7 +14,7 @@ public final class KeptTest {
     }
 
     private static void places() {
-        DyerBells x = new DyerBells();
+        Bells x = new Bells();
         Check.due("nothing is kept", false, x.restore(0));
         Check.due("nothing is kept", false, x.restore(1));
         Check.due("image(2)", false, x.image(2));
@@ -29,8 +29,8 @@ public final class KeptTest {
         Check.due("flow without", 100, x.flow(0));
     }
 
-    private static DyerBells made() {
-        DyerBells x = new DyerBells();
+    private static Bells made() {
+        Bells x = new Bells();
         Check.river(x, ONE);
         Check.order(x, "bell 0 0 g 1;bell 0 5 h 2;");
         x.see(3, 0, 4);
@@ -38,7 +38,7 @@ public final class KeptTest {
         return x;
     }
 
-    private static void isOne(DyerBells x) {
+    private static void isOne(Bells x) {
         int[] counts = {1, 1, 2, 1, 1, 2, 1};
         for (int what = 0; what < counts.length; what++) {
             Check.due("count(" + what + ")", counts[what], x.count(what));
@@ -54,7 +54,7 @@ public final class KeptTest {
     }
 
     private static void all() {
-        DyerBells x = made();
+        Bells x = made();
         isOne(x);
         Check.due("image(0)", true, x.image(0));
         Check.river(x, OTHER);
@@ -75,7 +75,7 @@ public final class KeptTest {
     }
 
     private static void both() {
-        DyerBells x = made();
+        Bells x = made();
         x.image(0);
         Check.river(x, OTHER);
         x.ring(7, 0, 1);
@@ -95,7 +95,7 @@ public final class KeptTest {
 
     /** The tape and what other calls told last stay. */
     private static void others() {
-        DyerBells x = new DyerBells();
+        Bells x = new Bells();
         Check.river(x, "reach a 100 0;colour c;guild big a 1 c 100;guild sml a 1 c 4;user u a 0 12 c 5;flow 0 50;");
         x.image(0);
         x.ring(0, 0, 1);
@@ -120,7 +120,7 @@ public final class KeptTest {
     }
 
     private static void sights() {
-        DyerBells x = new DyerBells();
+        Bells x = new Bells();
         Check.river(x, "reach a 100 0;colour c;colour d;guild g a 1 c 100;guild h a 1 d 100;");
         x.see(7, 1, 0);
         x.see(8, 1, 100);
@@ -140,7 +140,7 @@ public final class KeptTest {
 
     /** What is done behind an image or a restore does not reach what is kept. */
     private static void copies() {
-        DyerBells x = made();
+        Bells x = made();
         x.image(1);
         x.ring(9, 1, 1);
         x.see(0, 0, 0);

@@ -11,14 +11,14 @@ public final class NightTest {
     }
 
     /** All that is put in passes in its HOUR. */
-    private static DyerBells made() {
-        DyerBells x = new DyerBells();
+    private static Bells made() {
+        Bells x = new Bells();
         Check.river(x, "reach a 100 0;colour c;colour d;guild g a 2 c 100;guild h a 2 c 30;");
         return x;
     }
 
     private static void see() {
-        DyerBells x = made();
+        Bells x = made();
         Check.due("see(168, ..)", -1, x.see(168, 0, 0));
         Check.due("see(-1, ..)", -1, x.see(-1, 0, 0));
         Check.due("see(0, 2, ..)", -1, x.see(0, 2, 0));
@@ -34,7 +34,7 @@ public final class NightTest {
         Check.due("count(6)", 20, x.count(6));
     }
 
-    private static void led(DyerBells x, int g, int hour, int hours) {
+    private static void led(Bells x, int g, int hour, int hours) {
         Check.due("led(0)", g, x.led(0));
         Check.due("led(1)", hour, x.led(1));
         Check.due("led(2)", hours, x.led(2));
@@ -43,7 +43,7 @@ public final class NightTest {
     }
 
     private static void found() {
-        DyerBells x = made();
+        Bells x = made();
         led(x, -1, -1, -1);
         x.see(9, 0, 0);
         x.see(10, 0, 30);
@@ -60,7 +60,7 @@ public final class NightTest {
     }
 
     private static void manyFound() {
-        DyerBells x = made();
+        Bells x = made();
         Check.due("nothing SEEN: each GUILD from each HOUR on", 2 * 993, x.night());
         led(x, -1, -1, -1);
         x.see(10, 0, 100);
@@ -71,7 +71,7 @@ public final class NightTest {
         led(x, 0, 5, 6);
         x.see(11, 0, 100);
         Check.due("7 HOURS are too many", 0, x.night());
-        DyerBells y = made();
+        Bells y = made();
         y.see(10, 0, 0);
         Check.due("all others", 2 * (993 - 21), y.night());
         y.see(30, 1, 0);
@@ -81,7 +81,7 @@ public final class NightTest {
     }
 
     private static void besidesTheOrder() {
-        DyerBells x = made();
+        Bells x = made();
         x.ring(10, 0, 1);
         x.see(10, 0, 100);
         Check.due("g anywhere, h not in HOUR 10", 993 + 993 - 21, x.night());
@@ -103,7 +103,7 @@ public final class NightTest {
     }
 
     private static void farAway() {
-        DyerBells x = new DyerBells();
+        Bells x = new Bells();
         Check.river(x, "reach a 200 10;reach b 150 20;reach d 120 0;colour c;guild g a 2 c 900;guild h b 2 c 700;guild i a 3 c 901;flow 1 60;flow 3 40;");
         x.ring(30, 1, 20);
         x.ring(71, 2, 4);
@@ -123,12 +123,12 @@ public final class NightTest {
     }
 
     private static void lastHours() {
-        DyerBells x = made();
+        Bells x = made();
         x.see(167, 0, 100);
         x.see(166, 0, 0);
         Check.due("the last HOUR", 1, x.night());
         led(x, 0, 167, 1);
-        DyerBells y = made();
+        Bells y = made();
         y.see(0, 0, 30);
         y.see(1, 0, 0);
         Check.due("the first HOUR", 1, y.night());

@@ -10,14 +10,14 @@ public final class OrderTest {
         Check.close();
     }
 
-    private static DyerBells made() {
-        DyerBells x = new DyerBells();
+    private static Bells made() {
+        Bells x = new Bells();
         Check.river(x, RIVER);
         return x;
     }
 
     private static void told() {
-        DyerBells x = made();
+        Bells x = made();
         Check.due("order", 3, Check.order(x, "bell 0 0 g 24;\nbell 6 23 h 1 ;bell 2 5 g 7;"));
         Check.due("fault", 0, x.fault());
         int[][] due = {{0, 0, 24}, {167, 1, 1}, {53, 0, 7}};
@@ -38,7 +38,7 @@ public final class OrderTest {
     }
 
     private static void faults() {
-        DyerBells x = made();
+        Bells x = made();
         Check.order(x, "bell 0 3 h 2;");
         Check.orderFault(x, "bel 0 0 g 1;", 1, 0);
         Check.orderFault(x, "bell", 1, 4);
@@ -72,7 +72,7 @@ public final class OrderTest {
     }
 
     private static void rung() {
-        DyerBells x = made();
+        Bells x = made();
         Check.due("ring(0, 0, 24)", 0, x.ring(0, 0, 24));
         Check.due("ring(167, 1, 1)", 1, x.ring(167, 1, 1));
         Check.due("ring(144, 1, 24)", 2, x.ring(144, 1, 24));
@@ -97,7 +97,7 @@ public final class OrderTest {
     }
 
     private static void undone() {
-        DyerBells x = made();
+        Bells x = made();
         Check.due("undo of none", -1, x.undo());
         Check.order(x, "bell 0 0 g 1;bell 0 1 h 1;");
         x.ring(7, 0, 1);

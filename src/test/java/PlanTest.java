@@ -14,15 +14,15 @@ public final class PlanTest {
     }
 
     /** DAY 6 alone clears all; what is left of another DAY's work is there until then. */
-    private static DyerBells made() {
-        DyerBells x = new DyerBells();
+    private static Bells made() {
+        Bells x = new Bells();
         Check.river(x, "reach a 100 0;colour c;guild g a 2 c 100;guild h a 1 c 100;guild i a 24 c 1;user u a 0 24 c 0;"
             + "flow 0 50;flow 1 50;flow 2 50;flow 3 50;flow 4 50;flow 5 50;");
         return x;
     }
 
     private static void days() {
-        DyerBells x = made();
+        Bells x = made();
         Check.due("ahead of any", -1, x.dayOf(0));
         Check.due("g from 22 on", 0, Check.days(x, 22, 0));
         Check.due("on DAY 6", 6, x.dayOf(0));
@@ -42,7 +42,7 @@ public final class PlanTest {
     }
 
     private static void daysOfMany() {
-        DyerBells x = made();
+        Bells x = made();
         x.harm();
         x.dam(0, 1);
         Check.due("h and g", 1, Check.days(x, 23, 1, 0));
@@ -63,7 +63,7 @@ public final class PlanTest {
     }
 
     private static void daysWrong() {
-        DyerBells x = made();
+        Bells x = made();
         Check.due("none told", -2, Check.days(x, 0));
         Check.due("no such GUILD", -2, Check.days(x, 0, 3));
         Check.due("no such GUILD", -2, Check.days(x, 0, 0, 255));
@@ -84,7 +84,7 @@ public final class PlanTest {
     }
 
     private static void daysForMany() {
-        DyerBells x = new DyerBells();
+        Bells x = new Bells();
         Check.river(x, "reach a 100 0;colour c;guild g a 1 c 40;guild h a 1 c 40;guild i a 1 c 40;guild j a 1 c 40;guild k a 1 c 1;"
             + "user u a 0 1 c 25;flow 0 50;flow 1 50;flow 2 50;flow 3 50;flow 4 50;flow 5 50;flow 6 50;");
         // Of a DAY's 40 one is left on all that come: 41 make 21 then, 80 make 40.
@@ -105,15 +105,15 @@ public final class PlanTest {
         Check.due("three on a DAY harm no more than two", 0, x.dayOf(1));
     }
 
-    private static DyerBells strongAndWeak() {
-        DyerBells x = new DyerBells();
+    private static Bells strongAndWeak() {
+        Bells x = new Bells();
         Check.river(x, "reach a 100 0;colour c;guild big a 1 c 100;guild sml a 1 c 4;user u a 0 12 c 5;"
             + "flow 0 50;flow 1 50;flow 2 50;flow 3 50;flow 4 50;flow 5 50;flow 6 50;");
         return x;
     }
 
     private static void exchange() {
-        DyerBells x = strongAndWeak();
+        Bells x = strongAndWeak();
         Check.due("ahead of any", 0, x.exchanges());
         x.ring(0, 0, 1);
         x.ring(12, 1, 2);
@@ -140,7 +140,7 @@ public final class PlanTest {
 
     /** BELL 0 of 'big' harms; an exchange with BELL 1 does not help, with 2 and with 3 does. */
     private static void firstTwo() {
-        DyerBells x = strongAndWeak();
+        Bells x = strongAndWeak();
         x.ring(0, 0, 1);
         x.ring(24, 1, 1);
         x.ring(60, 1, 1);
@@ -155,21 +155,25 @@ public final class PlanTest {
     }
 
     private static void fifty() {
-        DyerBells x = new DyerBells();
-        Check.river(x, FIFTY_RIVER);
-        for (int k = 0; k < FIFTY_BELLS.length; k += 2) {
-            x.ring(FIFTY_BELLS[k], FIFTY_BELLS[k + 1], 1);
-        }
+        Bells x = new Bells();
+        ringFifty(x);
         x.exchange();
         Check.due("50 at most", 50, x.exchanges());
         x.exchange();
         Check.due("there are more", true, x.exchanges() > 0);
     }
 
+    static void ringFifty(Bells x) {
+        Check.river(x, FIFTY_RIVER);
+        for (int k = 0; k < FIFTY_BELLS.length; k += 2) {
+            x.ring(FIFTY_BELLS[k], FIFTY_BELLS[k + 1], 1);
+        }
+    }
+
     /** What has settled of DAY 0 is washed up on DAY 2; each BELL is tried by hand. */
     private static void lateWithFlood() {
         for (int start = 1; start < 168; start++) {
-            DyerBells x = new DyerBells();
+            Bells x = new Bells();
             Check.river(x, "reach a 100 500;reach b 80 90;colour c;guild g a 1 c 100;user u a 0 24 c 10;user v b 0 9 c 12;"
                 + "flow 0 0;flow 1 0;flow 2 10;flow 3 0;flow 4 5;flow 5 12;flow 6 1;flood 10;");
             x.ring(0, 0, 1);
@@ -188,7 +192,7 @@ public final class PlanTest {
     }
 
     private static void late() {
-        DyerBells x = strongAndWeak();
+        Bells x = strongAndWeak();
         x.ring(12, 0, 1);
         x.ring(143, 0, 1);
         x.ring(167, 1, 1);
@@ -202,7 +206,7 @@ public final class PlanTest {
         Check.due("no BELL", -1, x.late(-1));
         Check.due("nothing is changed", 12, x.bell(0, 0));
         Check.due("nothing is changed", 3, x.harm());
-        DyerBells y = strongAndWeak();
+        Bells y = strongAndWeak();
         y.ring(0, 1, 1);
         y.ring(150, 1, 3);
         y.ring(100, 1, 24);

@@ -5,7 +5,7 @@ import java.util.Random;
 /** Runs of drawn calls, each answer held against the Model's. Seeds are fixed, so a run is the same each time. */
 public final class RandomRunsTest {
     private final Random random;
-    private final DyerBells x = new DyerBells();
+    private final Bells x = new Bells();
     private final Model m = new Model();
     private final String run;
     private int reaches;

@@ -16,7 +16,7 @@ public final class RiverTest {
     }
 
     private static void told() {
-        DyerBells x = new DyerBells();
+        Bells x = new Bells();
         Check.due("river", 12, Check.river(x, "reach up 1 0;reach low 9999 500;colour red;colour blue;guild dye low 24 blue 9999 red 1;"
             + "guild vat up 1 red 7;user mill up 0 1;user farm low 23 24 red 0 blue 9999;flow 0 0;flow 6 9999;flood 1;pebble red 1 0;"));
         Check.due("fault", 0, x.fault());
@@ -56,7 +56,7 @@ public final class RiverTest {
     }
 
     private static void tokens() {
-        DyerBells x = new DyerBells();
+        Bells x = new Bells();
         Check.due("no blanks", 2, Check.river(x, "colour c;flood 5;"));
         Check.due("many blanks", 2, Check.river(x, " \n colour\n c ; \n\nflood 0005\n; "));
         Check.due("blanks alone", 0, Check.river(x, " \n \n"));
@@ -75,7 +75,7 @@ public final class RiverTest {
     }
 
     private static void cantCome() {
-        DyerBells x = new DyerBells();
+        Bells x = new Bells();
         Check.riverFault(x, "c", 1, 0);
         Check.riverFault(x, ";", 1, 0);
         Check.riverFault(x, " 5", 1, 1);
@@ -102,6 +102,7 @@ public final class RiverTest {
         String[] words = {"reach", "colour", "guild", "user", "flow", "flood", "pebble", "bell", "or", "and", "not",
             "works", "harmed", "shade", "hour", "day", "passed"};
         for (String word : words) {
+            x = new Bells();
             Check.riverFault(x, "colour " + word + ";", 1, 7);
             Check.riverFault(x, HEAD + "guild g " + word + " 1;", 1, 29);
             Check.riverFault(x, HEAD + "guild g a 1 " + word + " 1;", 1, 33);
@@ -109,7 +110,7 @@ public final class RiverTest {
     }
 
     private static void numbers() {
-        DyerBells x = new DyerBells();
+        Bells x = new Bells();
         Check.riverFault(x, "reach a 0 5;", 2, 8);
         Check.riverFault(x, "reach a 5 501;", 2, 10);
         Check.riverFault(x, HEAD + "guild g a 0 c 5;", 2, 31);
@@ -128,7 +129,7 @@ public final class RiverTest {
     }
 
     private static void names() {
-        DyerBells x = new DyerBells();
+        Bells x = new Bells();
         Check.riverFault(x, "reach a 5 5;reach a 0 0;", 3, 18);
         Check.riverFault(x, "reach a 5 5;colour a;", 3, 19);
         Check.riverFault(x, HEAD + "guild a a 1 c 1;", 3, 27);
@@ -154,7 +155,7 @@ public final class RiverTest {
     }
 
     private static void tooMany() {
-        DyerBells x = new DyerBells();
+        Bells x = new Bells();
         StringBuilder reaches = new StringBuilder();
         StringBuilder colours = new StringBuilder();
         StringBuilder guilds = new StringBuilder(HEAD);
@@ -197,26 +198,25 @@ public final class RiverTest {
     }
 
     private static void tooLong() {
-        DyerBells x = new DyerBells();
-        Check.due("900 bytes", 1, Check.river(x, padded("colour c;", 900, "")));
-        Check.riverFault(x, padded("colour c;", 901, ""), 1, 900);
-        Check.riverFault(x, padded("colour c;", 940, ""), 1, 900);
-        Check.riverFault(x, padded("colour c", 900, ""), 1, 900);
-        Check.riverFault(x, padded("colour c;", 891, "colour d;."), 1, 900);
-        Check.due("';' is the 900th", 2, Check.river(x, padded("colour c;", 891, "colour d;")));
-        Check.riverFault(x, padded("colour c;", 892, "colour d;"), 1, 900);
-        Check.riverFault(x, padded("colour c;", 897, "colour d;"), 1, 900);
-        Check.riverFault(x, padded("colour c;", 897, "colours"), 1, 897);
-        Check.riverFault(x, padded("flood 5;", 897, "flood 5;"), 3, 897);
-        Check.riverFault(x, padded("reach a 5", 899, "500;"), 1, 900);
-        Check.riverFault(x, padded("reach a 5", 899, "501;"), 2, 899);
-        Check.riverFault(x, padded("reach a 5", 899, "00500;"), 1, 899);
-        Check.riverFault(x, padded("reach a 5", 900, "501;"), 1, 900);
-        Check.riverFault(x, padded("colour c;x", 940, ""), 1, 9);
+        Check.due("900 bytes", 1, Check.river(new Bells(), padded("colour c;", 900, "")));
+        Check.riverFault(new Bells(), padded("colour c;", 901, ""), 1, 900);
+        Check.riverFault(new Bells(), padded("colour c;", 940, ""), 1, 900);
+        Check.riverFault(new Bells(), padded("colour c", 900, ""), 1, 900);
+        Check.riverFault(new Bells(), padded("colour c;", 891, "colour d;."), 1, 900);
+        Check.due("';' is the 900th", 2, Check.river(new Bells(), padded("colour c;", 891, "colour d;")));
+        Check.riverFault(new Bells(), padded("colour c;", 892, "colour d;"), 1, 900);
+        Check.riverFault(new Bells(), padded("colour c;", 897, "colour d;"), 1, 900);
+        Check.riverFault(new Bells(), padded("colour c;", 897, "colours"), 1, 897);
+        Check.riverFault(new Bells(), padded("flood 5;", 897, "flood 5;"), 3, 897);
+        Check.riverFault(new Bells(), padded("reach a 5", 899, "500;"), 1, 900);
+        Check.riverFault(new Bells(), padded("reach a 5", 899, "501;"), 2, 899);
+        Check.riverFault(new Bells(), padded("reach a 5", 899, "00500;"), 1, 899);
+        Check.riverFault(new Bells(), padded("reach a 5", 900, "501;"), 1, 900);
+        Check.riverFault(new Bells(), padded("colour c;x", 940, ""), 1, 9);
     }
 
     private static void stays() {
-        DyerBells x = new DyerBells();
+        Bells x = new Bells();
         Check.river(x, HEAD + "guild g a 3 c 7;flow 2 9;");
         x.ring(1, 0, 2);
         x.see(0, 0, 0);
@@ -233,7 +233,7 @@ public final class RiverTest {
     }
 
     private static void newRiver() {
-        DyerBells x = new DyerBells();
+        Bells x = new Bells();
         Check.river(x, HEAD + "guild g a 3 c 7;user u a 0 1 c 3;flow 2 9;flood 3;");
         x.ring(1, 0, 2);
         x.see(0, 0, 0);

@@ -7,7 +7,7 @@ public final class RoomTest {
     public static void main(String[] args) {
         com.sun.management.ThreadMXBean bean = (com.sun.management.ThreadMXBean) ManagementFactory.getThreadMXBean();
         long self = Thread.currentThread().getId();
-        DyerBells x = full();
+        Bells x = full();
         ask(x);
         long before = bean.getThreadAllocatedBytes(self);
         DyerBells y = new DyerBells();
@@ -15,7 +15,7 @@ public final class RoomTest {
         answers += y.count(0);
         Check.due("an object takes less than 100 000 bytes", true, made < 100000);
         before = bean.getThreadAllocatedBytes(self);
-        for (int i = 0; i < 10; i++) {
+        for (int i = 0; i < 8; i++) {
             ask(x);
         }
         long asked = bean.getThreadAllocatedBytes(self) - before;
@@ -24,8 +24,8 @@ public final class RoomTest {
         Check.close();
     }
 
-    private static DyerBells full() {
-        DyerBells x = new DyerBells();
+    private static Bells full() {
+        Bells x = new Bells();
         StringBuilder river = new StringBuilder();
         for (char i = 'a'; i < 'k'; i++) {
             river.append("reach r").append(i).append(" 300 40;");
@@ -49,7 +49,7 @@ public final class RoomTest {
         return x;
     }
 
-    private static void ask(DyerBells x) {
+    private static void ask(Bells x) {
         x.image(0);
         x.feed(0x63000000, 0, 0, 0, 0);
         x.end(1);

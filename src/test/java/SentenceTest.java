@@ -14,8 +14,8 @@ public final class SentenceTest {
     }
 
     /** Half of what is in 'a' goes on in each HOUR; GUILD g works in HOURS 0, 1, h in 24. */
-    private static DyerBells made() {
-        DyerBells x = new DyerBells();
+    private static Bells made() {
+        Bells x = new Bells();
         Check.river(x, "reach a 100 0;reach b 50 0;colour c;colour d;guild g a 2 c 100 d 10;guild h b 1 d 7;user u a 0 24 c 20;"
             + "flow 0 50;flow 1 50;flow 2 50;flow 3 50;flow 4 50;flow 5 50;flow 6 50;");
         x.ring(0, 0, 2);
@@ -23,7 +23,7 @@ public final class SentenceTest {
         return x;
     }
 
-    private static void said(DyerBells x, String text, int ones, int hours) {
+    private static void said(Bells x, String text, int ones, int hours) {
         Check.due("sentence of '" + text + "'", ones, Check.sentence(x, text));
         Check.due("fault of '" + text + "'", 0, x.fault());
         Check.due("said of '" + text + "'", hours, x.said(-1));
@@ -31,7 +31,7 @@ public final class SentenceTest {
 
     /** In 'a' behind the HOURS 0 .. of c 50, 75, 38, 19, 10, 5, 3, 2, 1, 1 ..; of d 5, 8, 4, 2, 1, 1 ... */
     private static void said() {
-        DyerBells x = made();
+        Bells x = made();
         said(x, "works g", 1, 2);
         said(x, "works h", 1, 1);
         Check.due("the HOUR", 24, x.said(0));
@@ -57,20 +57,25 @@ public final class SentenceTest {
         said(x, "passed=" + (x.passed(1, 0) + x.passed(1, 1)), 1, 1);
         Check.due("PASSED of both COLOURS", 1, x.said(0));
         Check.due("SHADE of 50 in 50", 100, x.at(0, 1, 0, 2));
-        int inB = 0;
-        for (int h = 0; h < 168; h++) {
-            inB += x.at(h, 1, 0, 2) > 60 ? 1 : 0;
-        }
-        said(x, "shade c b>60", 1, inB);
-        Check.due("not as in the other REACH", true, inB != 2 && inB != 0);
+        inOtherReach();
         x.ring(100, 0, 1);
         said(x, "works g", 1, 3);
         x.undo();
         Check.due("it is said anew", 2, x.said(-1));
     }
 
+    private static void inOtherReach() {
+        Bells x = made();
+        int inB = 0;
+        for (int h = 0; h < 168; h++) {
+            inB += x.at(h, 1, 0, 2) > 60 ? 1 : 0;
+        }
+        said(x, "shade c b>60", 1, inB);
+        Check.due("not as in the other REACH", true, inB != 2 && inB != 0);
+    }
+
     private static void asked() {
-        DyerBells x = made();
+        Bells x = made();
         Check.due("no SENTENCE", -1, x.said(-1));
         Check.due("no SENTENCE", -1, x.said(0));
         Check.sentence(x, "works g");
@@ -83,7 +88,7 @@ public final class SentenceTest {
     }
 
     private static void joined() {
-        DyerBells x = made();
+        Bells x = made();
         said(x, "hour=0 or hour=1 and hour=2", 3, 1);
         said(x, "(hour=0 or hour=1) and hour=2", 4, 0);
         said(x, "hour=2 and hour=1 or hour=0", 3, 1);
@@ -99,7 +104,7 @@ public final class SentenceTest {
     }
 
     private static void cantCome() {
-        DyerBells x = made();
+        Bells x = made();
         Check.sentenceFault(x, "", 1, 0);
         Check.sentenceFault(x, "  ", 1, 2);
         Check.sentenceFault(x, "g", 1, 0);
@@ -130,7 +135,7 @@ public final class SentenceTest {
     }
 
     private static void names() {
-        DyerBells x = made();
+        Bells x = made();
         Check.sentenceFault(x, "works x", 3, 6);
         Check.sentenceFault(x, "works u", 3, 6);
         Check.sentenceFault(x, "works c", 3, 6);
@@ -148,7 +153,7 @@ public final class SentenceTest {
     }
 
     private static void tooMany() {
-        DyerBells x = made();
+        Bells x = made();
         String twenty = "day=1" + " or day=1".repeat(19);
         said(x, twenty, 20, 24);
         Check.sentenceFault(x, twenty + " or day=1", 4, twenty.length() + 4);
@@ -180,7 +185,7 @@ public final class SentenceTest {
     }
 
     private static void tooLong() {
-        DyerBells x = made();
+        Bells x = made();
         said(x, "works g" + " ".repeat(193), 1, 2);
         Check.sentenceFault(x, "works g" + " ".repeat(194), 1, 200);
         Check.sentenceFault(x, "works" + " ".repeat(194) + "gg", 3, 199);
@@ -191,7 +196,7 @@ public final class SentenceTest {
     }
 
     private static void stays() {
-        DyerBells x = made();
+        Bells x = made();
         Check.sentence(x, "works g");
         Check.sentenceFault(x, "works h and", 1, 11);
         Check.due("it stays", 2, x.said(-1));
@@ -201,7 +206,7 @@ public final class SentenceTest {
     }
 
     private static void withoutReach() {
-        DyerBells x = made();
+        Bells x = made();
         x.ring(167, 1, 1);
         said(x, "passed>0 and hour=167", 2, 1);
         Check.river(x, "colour c;colour d;");

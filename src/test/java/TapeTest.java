@@ -10,7 +10,7 @@ public final class TapeTest {
     }
 
     private static void newObject() {
-        DyerBells x = new DyerBells();
+        Bells x = new Bells();
         for (int what = 0; what < 8; what++) {
             Check.due("count(" + what + ") of a new object", 0, x.count(what));
         }
@@ -31,7 +31,7 @@ public final class TapeTest {
     }
 
     private static void feed() {
-        DyerBells x = new DyerBells();
+        Bells x = new Bells();
         Check.due("feed", 20, x.feed(0x636f6c6f, 0x75722072, 0x65643b63, 0x6f6c6f75, 0x7220623b));
         Check.due("count(7)", 20, x.count(7));
         Check.due("river: the highest byte first", 2, x.river());
@@ -48,7 +48,7 @@ public final class TapeTest {
     }
 
     private static void end() {
-        DyerBells x = new DyerBells();
+        Bells x = new Bells();
         Check.due("end(0)", true, x.end(0));
         Check.due("end(1) of none", false, x.end(1));
         x.feed(0x636f6c6f, 0x75722072, 0x65643b63, 0x6f6c6f75, 0x7220623b);
@@ -64,7 +64,7 @@ public final class TapeTest {
     }
 
     private static void takenTape() {
-        DyerBells x = new DyerBells();
+        Bells x = new Bells();
         Check.tape(x, "x");
         x.river();
         Check.due("tape behind a river with a FAULT", 0, x.count(7));
@@ -86,7 +86,7 @@ public final class TapeTest {
     }
 
     private static void counts() {
-        DyerBells x = new DyerBells();
+        Bells x = new Bells();
         Check.river(x, "reach a 5 5;reach b 5 5;reach d 5 5;reach e 5 5;reach f 5 5;colour c;colour k;colour l;"
             + "guild g a 1 c 1;guild h a 1 c 1;user u a 0 1;pebble c 1 1;pebble c 2 1;pebble c 3 1;pebble k 1 1;");
         x.ring(0, 0, 1);

@@ -14,14 +14,14 @@ public final class WaterTest {
         Check.close();
     }
 
-    private static void at(DyerBells x, int hour, int r, int water, int bed) {
+    private static void at(Bells x, int hour, int r, int water, int bed) {
         Check.due("water of REACH " + r + " behind HOUR " + hour, water, x.at(hour, r, 0, 0));
         Check.due("bed of REACH " + r + " behind HOUR " + hour, bed, x.at(hour, r, 0, 1));
     }
 
     /** What goes on goes one REACH an HOUR, and settles where it has come to. */
     private static void onward() {
-        DyerBells x = new DyerBells();
+        Bells x = new Bells();
         Check.river(x, "reach up 100 0;reach mid 200 100;reach low 100 0;colour c;guild g up 2 c 1000;");
         x.ring(0, 0, 2);
         at(x, 0, 0, 0, 0);
@@ -36,7 +36,7 @@ public final class WaterTest {
     }
 
     private static void floods() {
-        DyerBells x = new DyerBells();
+        Bells x = new Bells();
         Check.river(x, "reach a 100 500;colour c;guild g a 1 c 100;flow 0 0;flow 1 10;flood 10;");
         x.ring(0, 0, 1);
         at(x, 0, 0, 50, 50);
@@ -52,7 +52,7 @@ public final class WaterTest {
     }
 
     private static void floodWithout() {
-        DyerBells x = new DyerBells();
+        Bells x = new Bells();
         Check.river(x, "reach a 100 500;colour c;guild g a 1 c 100;flow 0 0;flow 1 9999;");
         x.ring(0, 0, 1);
         Check.due("9999 floods", 50, x.passed(24, 0));
@@ -62,7 +62,7 @@ public final class WaterTest {
     }
 
     private static void sums() {
-        DyerBells x = new DyerBells();
+        Bells x = new Bells();
         Check.river(x, "reach a 100 500;reach b 100 0;colour c;colour d;guild g a 1 c 100 d 3;guild h b 1 c 7;flow 0 0;flow 1 10;flood 10;");
         x.ring(0, 0, 2);
         x.ring(1, 0, 2);
@@ -86,7 +86,7 @@ public final class WaterTest {
     }
 
     private static void fines() {
-        DyerBells x = new DyerBells();
+        Bells x = new Bells();
         Check.river(x, "reach a 100 0;colour c;colour d;guild g a 1 c 50 d 49;guild h a 1 c 9;flow 0 0;"
             + "pebble c 50 9;pebble c 10 3;pebble c 60 0;pebble d 49 100;pebble d 50 999;");
         Check.due("nothing there", 0, x.fine(0, 0));
@@ -108,7 +108,7 @@ public final class WaterTest {
     }
 
     private static void wrongAsked() {
-        DyerBells x = new DyerBells();
+        Bells x = new Bells();
         Check.river(x, "reach a 100 0;colour c;guild g a 1 c 50;");
         Check.due("at(0, 0, 0, 0)", 0, x.at(0, 0, 0, 0));
         Check.due("at(167, 0, 0, 2)", 0, x.at(167, 0, 0, 2));
@@ -128,7 +128,7 @@ public final class WaterTest {
     }
 
     private static void pulses() {
-        DyerBells x = new DyerBells();
+        Bells x = new Bells();
         Check.river(x, "reach a 100 0;reach b 100 0;colour c;guild g b 1 c 50;flow 0 50;flow 1 0;flow 2 0;flow 3 0;flow 4 0;flow 5 0;flow 6 0;");
         x.ring(0, 0, 24);
         Check.due("b: the first HOUR", 0, x.pulse(1, 0, 100, 0));
@@ -141,7 +141,7 @@ public final class WaterTest {
         Check.due("one stays: nothing", 0, x.pulse(1, 0, 1, 2));
         Check.due("the ORDER is as it was", 1200, x.sum(0, 0));
         Check.due("much is left", true, x.sum(0, 2) > 10);
-        DyerBells y = new DyerBells();
+        Bells y = new Bells();
         Check.river(y, "reach a 100 0;reach b 100 0;colour c;flow 0 50;flow 1 0;flow 2 0;flow 3 0;flow 4 0;flow 5 0;flow 6 0;");
         Check.due("nothing else is there", y.pulse(0, 0, 100, 2), x.pulse(0, 0, 100, 2));
         x.undo();
@@ -165,7 +165,7 @@ public final class WaterTest {
 
     /** Each COLOUR goes one REACH an HOUR, all of it. */
     private static void tenReaches() {
-        DyerBells x = new DyerBells();
+        Bells x = new Bells();
         StringBuilder river = new StringBuilder("colour ca;colour cb;colour cc;colour cd;");
         for (char r = 'a'; r < 'k'; r++) {
             river.append("reach ").append(r).append(" 100 0;");
@@ -188,7 +188,7 @@ public final class WaterTest {
 
     /** Products beyond an int. */
     private static void greatest() {
-        DyerBells x = new DyerBells();
+        Bells x = new Bells();
         StringBuilder river = new StringBuilder("reach a 9999 500;reach b 1 0;colour c;flow 6 5000;flood 5000;");
         for (char g = 'g'; g < 'g' + 6; g++) {
             river.append("guild ").append(g).append(" a 24 c 9999;");
@@ -216,25 +216,33 @@ public final class WaterTest {
 
     /** A COLOUR without a REACH, told behind a RIVER by which something PASSED in the last HOUR that was worked out. */
     private static void withoutReach() {
-        DyerBells x = new DyerBells();
-        Check.river(x, "reach r 100 0;colour c;colour d;guild g r 1 c 10 d 20;");
-        x.ring(167, 0, 1);
-        Check.due("PASSED in the last HOUR", 10, x.passed(167, 0));
-        x.image(0);
-        Check.due("river", 2, Check.river(x, "colour c;colour d;"));
+        Bells x = behindAnother();
         nothingPasses(x);
+        x = behindAnother();
         x.image(1);
         x.restore(0);
         Check.due("PASSED as kept", 20, x.passed(167, 1));
         x.restore(1);
         nothingPasses(x);
+        x = behindAnother();
+        x.image(1);
         x.restore(0);
         Check.due("a PULSE", 99, x.pulse(0, 0, 99, 2));
         x.restore(1);
         nothingPasses(x);
     }
 
-    private static void nothingPasses(DyerBells x) {
+    private static Bells behindAnother() {
+        Bells x = new Bells();
+        Check.river(x, "reach r 100 0;colour c;colour d;guild g r 1 c 10 d 20;");
+        x.ring(167, 0, 1);
+        Check.due("PASSED in the last HOUR", 10, x.passed(167, 0));
+        x.image(0);
+        Check.due("river", 2, Check.river(x, "colour c;colour d;"));
+        return x;
+    }
+
+    private static void nothingPasses(Bells x) {
         for (int c = 0; c < 2; c++) {
             for (int h = 0; h < 168; h++) {
                 Check.due("passed(" + h + ", " + c + ") without a REACH", 0, x.passed(h, c));

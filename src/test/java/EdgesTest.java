@@ -1,0 +1,67 @@
+import java.lang.reflect.InvocationTargetException;
+import java.lang.reflect.Method;
+import java.nio.file.Files;
+import java.nio.file.Path;
+import java.nio.file.Paths;
+import java.util.Arrays;
+import java.util.Comparator;
+
+/**
+ * Each sentence of the document has a test of its own, whose name tells its promise and what it is about, and which
+ * quotes it. All tests that quote are run, each with a new object; every word of the Terms and the Promises must be
+ * quoted by one of them, and every quoted word must stand there.
+ */
+public final class EdgesTest {
+    private static final Class<?>[] GROUPS = {TextEdges.class, WeekEdges.class, PlanEdges.class, SentenceEdges.class,
+        EarlyPromiseEdges.class, MiddlePromiseEdges.class, LatePromiseEdges.class};
+
+    private EdgesTest() {
+    }
+
+    public static void main(String[] args) throws Exception {
+        Path path = Paths.get("../shared/DOC.md");
+        Document document = Files.exists(path) ? new Document(path) : null;
+        int tests = 0;
+        for (Class<?> group : GROUPS) {
+            Method[] methods = group.getDeclaredMethods();
+            Arrays.sort(methods, Comparator.comparing(Method::getName));
+            for (Method method : methods) {
+                Says says = method.getAnnotation(Says.class);
+                if (says != null) {
+                    tests++;
+                    run(method);
+                    quote(document, method.getName(), says);
+                }
+            }
+        }
+        Check.within("");
+        if (document != null) {
+            document.reportUnquoted();
+        }
+        System.out.println(tests + " tests of sentences");
+        Check.close();
+    }
+
+    private static void run(Method method) throws Exception {
+        Check.within(method.getDeclaringClass().getName() + "." + method.getName() + ": ");
+        try {
+            method.invoke(null, new Bells());
+        } catch (InvocationTargetException e) {
+            Check.due("throws " + e.getCause(), 0, 1);
+        }
+    }
+
+    private static void quote(Document document, String name, Says says) {
+        String title = "What it is";
+        if (name.startsWith("terms")) {
+            title = "Terms";
+        } else if (name.matches("promise[0-9][0-9].*")) {
+            title = "Promise " + Integer.parseInt(name.substring(7, 9));
+        }
+        for (String words : says.value()) {
+            if (document != null) {
+                document.quote(title, words);
+            }
+        }
+    }
+}
