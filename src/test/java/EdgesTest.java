@@ -1,15 +1,16 @@
 import java.lang.reflect.InvocationTargetException;
 import java.lang.reflect.Method;
-import java.nio.file.Files;
-import java.nio.file.Path;
 import java.nio.file.Paths;
 import java.util.Arrays;
 import java.util.Comparator;
+import java.util.HashSet;
+import java.util.List;
+import java.util.Set;
 
 /**
  * Each sentence of the document has a test of its own, whose name tells its promise and what it is about, and which
  * quotes it. All tests that quote are run, each with a new object; every word of the Terms and the Promises must be
- * quoted by one of them, and every quoted word must stand there.
+ * quoted by one of them, and every quoted word must stand there. With names of tests, those alone are run.
  */
 public final class EdgesTest {
     private static final Class<?>[] GROUPS = {TextEdges.class, WeekEdges.class, PlanEdges.class, SentenceEdges.class,
@@ -19,26 +20,29 @@ public final class EdgesTest {
     }
 
     public static void main(String[] args) throws Exception {
-        Path path = Paths.get("../shared/DOC.md");
-        Document document = Files.exists(path) ? new Document(path) : null;
-        int tests = 0;
+        Document document = new Document(Paths.get("../shared/DOC.md"));
+        List<String> sought = Arrays.asList(args);
+        Set<String> found = new HashSet<>();
         for (Class<?> group : GROUPS) {
             Method[] methods = group.getDeclaredMethods();
             Arrays.sort(methods, Comparator.comparing(Method::getName));
             for (Method method : methods) {
                 Says says = method.getAnnotation(Says.class);
-                if (says != null) {
-                    tests++;
+                if (says != null && (sought.isEmpty() || sought.contains(method.getName()))) {
+                    Check.due("another test named " + method.getName(), false, !found.add(method.getName()));
                     run(method);
                     quote(document, method.getName(), says);
                 }
             }
         }
         Check.within("");
-        if (document != null) {
+        if (sought.isEmpty()) {
             document.reportUnquoted();
         }
-        System.out.println(tests + " tests of sentences");
+        for (String name : sought) {
+            Check.due("there is a test " + name, true, found.contains(name));
+        }
+        System.out.println(found.size() + (found.size() == 1 ? " test of a sentence" : " tests of sentences"));
         Check.close();
     }
 
@@ -59,9 +63,7 @@ public final class EdgesTest {
             title = "Promise " + Integer.parseInt(name.substring(7, 9));
         }
         for (String words : says.value()) {
-            if (document != null) {
-                document.quote(title, words);
-            }
+            document.quote(title, words);
         }
     }
 }
